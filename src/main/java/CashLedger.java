@@ -169,7 +169,7 @@ public final class CashLedger {
         requireState(quarter < QUARTERS);
         history.remember(now);
         long target = targetAt(quarter, now.profitUpTo(quarter));
-        int amount = (int) Math.max(0, target - now.prepaidBefore(quarter));
+        int amount = (int) Math.max(0, target - now.prepaidSoFar());
         now.prepaid[quarter] = amount;
         now.closed = quarter + 1;
         return amount;
@@ -369,7 +369,7 @@ public final class CashLedger {
 
     public long settlement() throws IllegalStateException {
         requireState(now.closed == QUARTERS);
-        return setup.taxOf(yearProfit()) - now.prepaidBefore(QUARTERS);
+        return setup.taxOf(yearProfit()) - now.prepaidSoFar();
     }
 
     public long interest() {
@@ -731,14 +731,6 @@ public final class CashLedger {
             }
             return sum;
         }
-
-        private long officePart(int amount, int month) {
-            long whole = wholeMonth();
-            if (whole == 0) {
-                return 0;
-            }
-            return (long) amount * usedIn(month) / whole;
-        }
     }
 
     /** The assets; soldDay and soldPrice are both NONE for an asset that is not sold. */
@@ -886,7 +878,11 @@ public final class CashLedger {
             if (kind == EXPENSE) {
                 return amount;
             }
-            return kind == SHARED ? rooms.officePart(amount, day / MONTH_DAYS) : 0;
+            long whole = rooms.wholeMonth();
+            if (kind != SHARED || whole == 0) {
+                return 0;
+            }
+            return (long) amount * rooms.usedIn(day / MONTH_DAYS) / whole;
         }
 
         private int deductiblePart(int entry) {
@@ -931,10 +927,10 @@ public final class CashLedger {
             return received(0, lastDay) - deductibleUpTo(lastDay) - assets.allWrittenUpTo(quarter);
         }
 
-        private long prepaidBefore(int quarter) {
+        private long prepaidSoFar() {
             long sum = 0;
-            for (int q = 0; q < quarter && q < closed; q++) {
-                sum += prepaid[q];
+            for (int quarter = 0; quarter < closed; quarter++) {
+                sum += prepaid[quarter];
             }
             return sum;
         }

@@ -69,7 +69,9 @@ public final class BalanceTest {
         Check.same("47: all the same", x.lowestDay(), 0);
         x.addEntry(0, 0, 5, 0, 0);
         Check.same("47: higher from 0 on", x.lowestDay(), 0);
-        x.addEntry(1, 0, 10, 0, 100);
+        x.addEntry(1, 0, 6, 0, 1);
+        Check.same("47: day 1", x.lowestDay(), 1);
+        x.addEntry(1, 0, 4, 0, 100);
         Check.same("47: the first of them", x.lowestDay(), 100);
         x.addEntry(0, 0, 1, 0, 150);
         x.addEntry(1, 0, 1, 0, 359);
@@ -99,6 +101,12 @@ public final class BalanceTest {
         CashLedger x = new CashLedger();
         Check.same("49: nothing came in", x.bestMonth(), 0);
         x.addEntry(1, 0, 500, 0, 5);
+        x.addEntry(0, 0, 1, 0, 30);
+        Check.same("49: month 1", x.bestMonth(), 1);
+        x.addEntry(0, 0, 1, 0, 29);
+        Check.same("49: month 0, as good", x.bestMonth(), 0);
+        x.addEntry(0, 0, 1, 0, 59);
+        Check.same("49: its last day", x.bestMonth(), 1);
         x.addEntry(0, 0, 10, 0, 149);
         Check.same("49: month 4", x.bestMonth(), 4);
         x.addEntry(0, 0, 10, 0, 120);
@@ -108,7 +116,7 @@ public final class BalanceTest {
         Check.same("49: the last month", x.bestMonth(), 11);
         x.addEntry(0, 0, 900, 0, CashLedger.NONE);
         x.addEntry(0, 0, 900, 0, 200);
-        x.cancel(6);
+        x.cancel(9);
         x.addEntry(3, 0, 900, 0, 200);
         Check.same("49: only what counts", x.bestMonth(), 11);
         x.addAsset(100, 60, 5);

@@ -8,6 +8,7 @@ public final class EntriesTest {
         pay();
         cancel();
         late();
+        countOfTheFirst();
         count();
         entry();
         deductible();
@@ -58,6 +59,16 @@ public final class EntriesTest {
         Check.same("6: still 60", x.count(0), 60);
         Check.same("6: the last amount", x.entry(59, 2), 60);
         Check.same("6: the sum", x.total(0, 0, 359), 59 * 60 / 2);
+        Check.same("19: open of 60", x.count(1), 0);
+        Check.same("19: cancelled of 60", x.count(2), 1);
+        Check.same("19: late of 60", x.count(3), 0);
+        Check.same("21: of the last", x.deductible(59), 0);
+        Check.same("23: of 60", x.byCategory(0, true), 1 + 11 + 21 + 31 + 41 + 51);
+        Check.same("23: no deductible parts of 60", x.byCategory(0, false), 0);
+        Check.same("24: of 60", x.open(0), 0);
+        Check.fails("25: of 60", NoSuchElementException.class, x::oldestOpen);
+        Check.same("33: of 60", x.profit(0), 59 * 60 / 2);
+        Check.same("46: of 60", x.balance(359), 59 * 60 / 2);
     }
 
     private static void pay() {
@@ -122,6 +133,25 @@ public final class EntriesTest {
         x.closeQuarter();
         x.addEntry(3, 0, 1, 0, 359);
         Check.same("20: in the last quarter", x.entry(4, 6), 1);
+    }
+
+    private static void countOfTheFirst() {
+        CashLedger x = new CashLedger();
+        x.closeQuarter();
+        x.addEntry(0, 0, 1, 0, 5);
+        x.cancel(0);
+        x.addAsset(5, 0, 1);
+        x.sellAsset(0, 5, 0);
+        Check.same("19: the first is cancelled", x.count(2), 1);
+        Check.same("19: the first is late", x.count(3), 1);
+        Check.same("19: the first is sold", x.count(6), 1);
+        x.undo();
+        x.undo();
+        x.undo();
+        x.undo();
+        x.addEntry(1, 4, 1, 0, 6);
+        Check.same("20: in the place of a cancelled one", x.entry(0, 5), 0);
+        Check.same("23: the first", x.byCategory(4, false), 1);
     }
 
     private static void count() {

@@ -8,6 +8,7 @@ public final class HistoryTest {
         nothingChangesWhenThrown();
         save();
         restore();
+        restoreOverOthers();
         buffer();
         Check.end();
     }
@@ -164,6 +165,33 @@ public final class HistoryTest {
         Ledgers.put(x, "start 9");
         x.load();
         Check.fails("18: load drops the copy", IllegalStateException.class, x::restore);
+    }
+
+    /** What is made after the copy stands in the same places, and must give way as a whole. */
+    private static void restoreOverOthers() {
+        CashLedger x = Ledgers.of("top 500");
+        x.addEntry(0, 1, 1000, 3, 4);
+        x.closeQuarter();
+        x.addEntry(0, 1, 8, 3, 4);
+        x.addAsset(300000, 20, 10);
+        x.addRoom(4);
+        x.setOffice(0, 1, 2);
+        x.save();
+        String saved = Ledgers.picture(x);
+        for (int i = 0; i < 6; i++) {
+            x.undo();
+        }
+        Check.same("15: all undone", x.count(0) + x.count(4) + x.count(5) + x.count(7), 0);
+        x.addEntry(2, 7, 5, 6, 8);
+        x.addEntry(3, 8, 7, 8, 9);
+        x.cancel(1);
+        x.closeQuarter();
+        x.addAsset(5, 6, 7);
+        x.sellAsset(0, 8, 9);
+        x.addRoom(99);
+        x.restore();
+        Check.same("18: as saved", Ledgers.picture(x), saved.substring(0, saved.length() - 1) + "0");
+        Check.same("18: the prepayment", x.prepayment(0), 500);
     }
 
     private static void buffer() {

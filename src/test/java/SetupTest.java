@@ -10,6 +10,7 @@ public final class SetupTest {
         errorPositions();
         errorsOfNumbers();
         errorsOfTooMany();
+        fullBuffers();
         load();
         loadDefaults();
         Check.end();
@@ -52,7 +53,11 @@ public final class SetupTest {
         Check.same("2: nothing was appended", x.append(0, 0, 0, 0, 0), 399);
         Check.same("2: 400", x.append(0, 0, 'a' << 8, 0, 0), 400);
         Check.same("2: nothing to 400", x.append(0, 0, 0, 0, 0), 400);
-        Check.fails("2: one to 400", IllegalStateException.class, () -> x.append(0, 0, 0, 0, 1));
+        Check.fails("2: one to 400, a", IllegalStateException.class, () -> x.append(1, 0, 0, 0, 0));
+        Check.fails("2: one to 400, b", IllegalStateException.class, () -> x.append(0, 1, 0, 0, 0));
+        Check.fails("2: one to 400, c", IllegalStateException.class, () -> x.append(0, 0, 1 << 24, 0, 0));
+        Check.fails("2: one to 400, d", IllegalStateException.class, () -> x.append(0, 0, 0, 1, 0));
+        Check.fails("2: one to 400, e", IllegalStateException.class, () -> x.append(0, 0, 0, 0, 1));
         Check.fails("2: 20 to 400", IllegalStateException.class, () -> x.append(-1, -1, -1, -1, -1));
         Check.same("2: still 400", x.truncate(400), 400);
     }
@@ -107,6 +112,12 @@ public final class SetupTest {
         error("startx 5", 0);
         error("starts 5", 0);
         error("star 5", 0);
+        error("xtart 5", 0);
+        error("xop 5", 0);
+        error("room 5 xffice 1 2", 7);
+        error("assets;", 6);
+        error("room;", 4);
+        error("bracket;", 7);
         error("Start 5", 0);
         error("office 1 2", 0);
         error("5", 0);
@@ -176,6 +187,22 @@ public final class SetupTest {
         error("room 1;room 1;room 1;room 1;room 1;room 1;room 1", 42);
     }
 
+    private static void fullBuffers() {
+        error(" ".repeat(400), 400);
+        error("a".repeat(400), 0);
+        error("top " + "0".repeat(396), 4);
+        error("top 1" + " ".repeat(394) + ";", 400);
+        error("top 1" + ";".repeat(395), 6);
+        error("top 1" + " ".repeat(395), -1);
+        error(" ".repeat(395) + "top 1", -1);
+        error(" ".repeat(393) + "start 5", -1);
+        error(" ".repeat(394) + "start ", 400);
+        error(" ".repeat(395) + "start", 400);
+        CashLedger x = new CashLedger();
+        Ledgers.put(x, " ".repeat(394) + "room 7");
+        Check.same("5: a full buffer", x.load(), 1);
+    }
+
     private static void load() {
         CashLedger x = new CashLedger();
         x.addEntry(0, 0, 5, 0, 0);
@@ -236,6 +263,13 @@ public final class SetupTest {
         Check.same("5: 80001", x.asset(1, 3), 1);
         Check.same("5: 100000", x.asset(2, 3), 1);
         Check.same("5: 100001", x.asset(3, 3), 2);
+        Ledgers.put(x, "start 7;assets 1 1;interest 1;top 1");
+        x.errorPosition();
+        Check.same("5: checked before, nothing stands twice", x.load(), 0);
+        Check.same("5: top 1", x.rate(1), 1);
+        Ledgers.put(x, "room 1");
+        x.load();
+        Check.same("5: the start is 0 again", x.balance(0), 0);
         CashLedger y = Ledgers.of("top 420");
         y.closeQuarter();
         y.addEntry(0, 0, 1000000, 0, 0);
