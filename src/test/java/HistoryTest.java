@@ -1,3 +1,5 @@
+import java.util.function.Consumer;
+
 /** Promises 15 to 18 and section 10: undo, save and restore. */
 public final class HistoryTest {
     public static void main(String[] args) {
@@ -27,9 +29,10 @@ public final class HistoryTest {
         return x;
     }
 
-    private static void undone(String what, CashLedger x, Runnable change) {
+    private static void undone(String what, Consumer<CashLedger> change) {
+        CashLedger x = rich();
         String before = Ledgers.picture(x);
-        change.run();
+        change.accept(x);
         Check.same("16: behind " + what, x.undoCount(), 1);
         Check.holds("15: changed by " + what, !Ledgers.picture(x).equals(before));
         Check.same("15: undo " + what, x.undo(), 0);
@@ -40,15 +43,15 @@ public final class HistoryTest {
         CashLedger x = rich();
         Check.same("16: none", x.undoCount(), 0);
         Check.fails("15: none", IllegalStateException.class, x::undo);
-        undone("addEntry", x, () -> x.addEntry(0, 1, 5, 0, 0));
-        undone("pay", x, () -> x.pay(1, 3));
-        undone("cancel", x, () -> x.cancel(0));
-        undone("addRoom", x, () -> x.addRoom(9));
-        undone("setOffice", x, () -> x.setOffice(1, 5, 6));
-        undone("addAsset", x, () -> x.addAsset(8, 5, 6));
-        undone("sellAsset", x, () -> x.sellAsset(0, 5, 6));
-        undone("closeQuarter", x, x::closeQuarter);
-        undone("setStart", x, () -> x.setStart(8));
+        undone("addEntry", y -> y.addEntry(0, 1, 5, 0, 0));
+        undone("pay", y -> y.pay(1, 3));
+        undone("cancel", y -> y.cancel(0));
+        undone("addRoom", y -> y.addRoom(9));
+        undone("setOffice", y -> y.setOffice(1, 5, 6));
+        undone("addAsset", y -> y.addAsset(8, 5, 6));
+        undone("sellAsset", y -> y.sellAsset(0, 5, 6));
+        undone("closeQuarter", y -> y.closeQuarter());
+        undone("setStart", y -> y.setStart(8));
         x.addEntry(0, 1, 5, 0, 0);
         x.undo();
         x.addEntry(3, 2, 6, 7, CashLedger.NONE);

@@ -61,8 +61,9 @@ final class Ledgers {
             all.append("quarter ").append(x.profit(q)).append(' ').append(x.recomputed(q)).append(' ');
             all.append(q < x.count(7) ? x.prepayment(q) : CashLedger.NONE).append(' ');
         }
-        for (int day = 0; day < 360; day++) {
-            all.append(x.balance(day)).append(' ');
+        // Not every day: an object answers 512 calls only. Picture asks fresh ones for all of them.
+        for (int day = 0; day < 360; day += 15) {
+            all.append(x.balance(day)).append(' ').append(x.balance(day + 14)).append(' ');
         }
         all.append(x.tax(5000000)).append(' ').append(x.interest()).append(' ').append(x.undoCount());
         return all.toString();
