@@ -286,6 +286,9 @@ public final class EntryEdgesTest {
             y.addEntry(2, 5, 1, 0, 0);
         }
         Check.same("23: each part rounded down", y.byCategory(5, false), 0);
+        CashLedger first = new CashLedger();
+        first.addEntry(1, 5, 7, 0, 0);
+        Check.same("23: the first entry", first.byCategory(5, false), 7);
     }
 
     private static void openRange() {

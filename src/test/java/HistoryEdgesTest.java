@@ -26,6 +26,8 @@ public final class HistoryEdgesTest {
         restoreClearsTheHistory();
         restoreOfAnEmptyOverAFullLedger();
         restoreOfAFullOverAnEmptyLedger();
+        restoreOverOthersInTheSamePlaces();
+        nothingIsLeftInTheirPlaces();
         theCopyStandsByItself();
         undoLeavesTheCopy();
         Check.end();
@@ -414,6 +416,68 @@ public final class HistoryEdgesTest {
         Check.same("18: the balance of the copy", x.balance(0), 8 + 1000 - 70000);
         Edge.refused("18: as full as before", Edge::full, Edge.STATE, y -> y.addEntry(0, 0, 1, 0, 0));
         Check.fails("18: no place", Edge.STATE, () -> x.addEntry(0, 0, 1, 0, 0));
+    }
+
+    /** One thing of each sort, in the first places, made by seven changes; all of them are undone then. */
+    private static CashLedger savedThenOthers() {
+        CashLedger x = Ledgers.of("top 500;assets 10 20");
+        x.addEntry(0, 1, 1000, 3, 4);
+        x.closeQuarter();
+        x.addEntry(1, 2, 8, 5, 6);
+        x.addAsset(1200, 20, 10);
+        x.sellAsset(0, 100, 9);
+        x.addRoom(4);
+        x.setOffice(0, 1, 2);
+        x.save();
+        undone(x, 7);
+        x.addEntry(3, 7, 5, 6, 8);
+        x.addEntry(2, 8, 7, 8, Edge.NONE);
+        x.cancel(1);
+        x.closeQuarter();
+        x.addAsset(5, 6, 7);
+        x.addRoom(99);
+        x.setOffice(0, 50, 70);
+        return x;
+    }
+
+    private static void restoreOverOthersInTheSamePlaces() {
+        CashLedger x = savedThenOthers();
+        Check.same("18: both entries", x.restore(), 2);
+        int[][] entries = {{0, 1, 1000, 3, 4, 0, 0}, {1, 2, 8, 5, 6, 0, 1}};
+        for (int what = 0; what <= 6; what++) {
+            Check.same("18: entry 0, " + what, x.entry(0, what), entries[0][what]);
+            Check.same("18: entry 1, " + what, x.entry(1, what), entries[1][what]);
+        }
+        int[] asset = {1200, 20, 10, 2, 100, 9};
+        for (int what = 0; what <= 5; what++) {
+            Check.same("18: the asset, " + what, x.asset(0, what), asset[what]);
+        }
+        int[] room = {4, 1, 2};
+        for (int what = 0; what <= 2; what++) {
+            Check.same("18: the room, " + what, x.room(0, what), room[what]);
+        }
+        Check.same("18: the prepayment", x.prepayment(0), 500);
+    }
+
+    private static void nothingIsLeftInTheirPlaces() {
+        CashLedger x = new CashLedger();
+        x.save();
+        x.closeQuarter();
+        x.addEntry(0, 0, 1, 0, 0);
+        x.cancel(0);
+        x.addAsset(1, 0, 1);
+        x.sellAsset(0, 0, 7);
+        x.addRoom(1);
+        x.setOffice(0, 0, 359);
+        x.restore();
+        x.addEntry(0, 0, 1, 0, 0);
+        x.addAsset(1, 0, 1);
+        x.addRoom(1);
+        Check.same("18: a new one is not cancelled", x.entry(0, 5), 0);
+        Check.same("18: a new one is not late", x.entry(0, 6), 0);
+        Check.same("18: a new one is not sold", x.asset(0, 4), Edge.NONE);
+        Check.same("18: a new one has no price of sale", x.asset(0, 5), Edge.NONE);
+        Check.same("18: a new one is no office", x.room(0, 1), Edge.NONE);
     }
 
     private static void theCopyStandsByItself() {

@@ -264,6 +264,12 @@ public final class InputEdgesTest {
         return x;
     }
 
+    private static CashLedger checked(String text) {
+        CashLedger x = with(new CashLedger(), text);
+        x.errorPosition();
+        return x;
+    }
+
     private static void loadEmptiesTheBuffer() {
         CashLedger x = with(Edge.busy(), "top 5");
         x.load();
@@ -289,6 +295,11 @@ public final class InputEdgesTest {
         for (String text : alone) {
             Check.same("5: nothing is left of the text before " + text,
                     Picture.of(() -> loadedOver(Ledgers.of(all), text)), Picture.of(() -> Ledgers.of(text)));
+            Check.same("5: nothing is left of two texts before " + text,
+                    Picture.of(() -> loadedOver(loadedOver(Ledgers.of(all), all), text)),
+                    Picture.of(() -> Ledgers.of(text)));
+            Check.same("5: nothing is left of a text that was only checked before " + text,
+                    Picture.of(() -> loadedOver(checked(all + ";x"), text)), Picture.of(() -> Ledgers.of(text)));
         }
     }
 

@@ -123,6 +123,8 @@ public final class SetupEdgesTest {
             error(word + "z 1 2", 0);
             error("a" + word + " 1 2", 0);
             error("z" + word + " 1 2", 0);
+            error("x" + word.substring(1) + " 1 2", 0);
+            error(word.substring(0, word.length() - 1) + "x 1 2", 0);
             error(word.substring(1) + " 1 2", 0);
             error(word.substring(0, word.length() - 1) + " 1 2", 0);
             error(word.substring(0, 1).toUpperCase() + word.substring(1) + " 1 2", 0);
@@ -133,6 +135,8 @@ public final class SetupEdgesTest {
         error("room 1 officea 1 2", 7);
         error("room 1 officez 1 2", 7);
         error("room 1 ffice 1 2", 7);
+        error("room 1 affice 1 2", 7);
+        error("room 1 officf 1 2", 7);
         error("room 1 Office 1 2", 7);
         error("s tart 1", 0);
         error("roomoffice", 0);

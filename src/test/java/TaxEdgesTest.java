@@ -18,6 +18,7 @@ public final class TaxEdgesTest {
         rateWithoutBrackets();
         yearTaxOfLosses();
         yearTaxAsItIsNow();
+        yearTaxEndsWithTheYear();
         prepaymentRange();
         prepaymentOfOpenQuarters();
         prepaymentStays();
@@ -263,6 +264,16 @@ public final class TaxEdgesTest {
         Check.same("37: in any quarter", x.yearTax(), 900);
         x.cancel(0);
         Check.same("37: as it is at last", x.yearTax(), 0);
+    }
+
+    private static void yearTaxEndsWithTheYear() {
+        CashLedger x = Ledgers.of("top 500;assets 10 20000");
+        x.addEntry(0, 0, 100000, 0, 359);
+        x.addAsset(60000, 330, 60);
+        Check.same("37: one month of sixty", x.yearTax(), (100000 - 1000) / 2);
+        x.addAsset(20000, 359, 1);
+        Check.same("37: four twentieths of the pool", x.yearTax(), (100000 - 1000 - 4000) / 2);
+        Check.sameDouble("43: the profit of the year", x.effectiveRate(), 50.0);
     }
 
     // ---- Promises 38 to 40
